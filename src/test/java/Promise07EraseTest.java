@@ -6,6 +6,7 @@ public final class Promise07EraseTest {
         only();
         unknown();
         forgets();
+        isInsideNoMore();
         CHECK.end();
     }
 
@@ -55,5 +56,20 @@ public final class Promise07EraseTest {
         x.field(1, 0, 0, 1);
         CHECK.due("is LEARNED anew", x.learn(2, 1, 3), 1);
         CHECK.due("is not NEAR then", x.learn(4, 1, 2), 0);
+    }
+
+    /** No field is told between erasing and learning anew, which would end INSIDE by itself. */
+    private static void isInsideNoMore() {
+        DoorKeys x = new DoorKeys(16);
+        for (int key = 1; key <= 4; key++) {
+            x.key(key, 0);
+            x.field(key, 0, 0, 1);
+        }
+        x.learn(3, 1, 2);
+        x.field(3, 0, 0, 1);
+        CHECK.due("an INSIDE key", x.erase(1), 1);
+        CHECK.due("is LEARNED anew", x.learn(1, 2, 3), 1);
+        CHECK.due("can't teach", x.learn(4, 1, 2), 0);
+        CHECK.due("can't start", x.start(1, Remotes.e(1, Remotes.question(1))), 0);
     }
 }

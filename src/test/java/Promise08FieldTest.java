@@ -57,6 +57,9 @@ public final class Promise08FieldTest {
         opens(1901, 2100, 1, 0, "22222");
         opens(1900, 2101, 1, 0, "22222");
         opens(-3100, 1200, 1, 1, OPENED[4]);
+        // The least that a whole place can be beyond 1500
+        opens(1001, 2400, 1, 0, "22222");
+        opens(-3700, -1, 1, 0, "22222");
         opens(1000000, 1000000, 1, 0, "22222");
         opens(-1000000, 1000000, 1, 0, "22222");
         opens(1000000, -1000000, 1, 0, "22222");
