@@ -113,10 +113,13 @@ public final class DoorKeys {
 
     public int learn(int key, int a, int b) {
         Key pupil = find(key);
-        if (pupil == null) {
+        Key first = find(a);
+        Key second = find(b);
+        // a and b are numbers of keys too: a number of no key is refused before anything is judged.
+        if (pupil == null || first == null || second == null) {
             return UNKNOWN_NUMBER;
         }
-        if (pupil.learned || a == b || !isLearnedAtHand(a) || !isLearnedAtHand(b)) {
+        if (pupil.learned || a == b || !first.mayTeach() || !second.mayTeach()) {
             return 0;
         }
         pupil.learned = true;
@@ -237,11 +240,6 @@ public final class DoorKeys {
         return learned;
     }
 
-    private boolean isLearnedAtHand(int number) {
-        Key found = find(number);
-        return found != null && found.learned && found.isAtHand();
-    }
-
     private int judge(Frame frame) {
         if (!frame.isSound() || frame.command() > COMMAND_DEADEN) {
             return REFUSED;
@@ -300,6 +298,10 @@ public final class DoorKeys {
 
         boolean isAtHand() {
             return near || inside;
+        }
+
+        boolean mayTeach() {
+            return learned && isAtHand();
         }
 
         int roll(int c, int span) {

@@ -177,11 +177,11 @@ final class PlainCar {
     }
 
     private boolean teaches(int key) {
-        return known(key) && keys.get(key - 1).learned && !keys.get(key - 1).place.equals("away");
+        return keys.get(key - 1).learned && !keys.get(key - 1).place.equals("away");
     }
 
     int learn(int key, int a, int b) {
-        if (!known(key)) {
+        if (!known(key) || !known(a) || !known(b)) {
             return -1;
         }
         boolean learns = !keys.get(key - 1).learned && a != b && teaches(a) && teaches(b);

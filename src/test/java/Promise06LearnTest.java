@@ -1,4 +1,4 @@
-/** Promise 6: a key is LEARNED by two LEARNED ones that are NEAR or INSIDE. -1 there is no such key. */
+/** Promise 6: a key is LEARNED by two LEARNED ones that are NEAR or INSIDE. -1 one of the three is none. */
 public final class Promise06LearnTest {
     private static final Check CHECK = new Check("Promise06LearnTest");
 
@@ -6,6 +6,7 @@ public final class Promise06LearnTest {
         who();
         where();
         unknown();
+        unknownComesFirst();
         afterLearning();
         CHECK.end();
     }
@@ -64,9 +65,33 @@ public final class Promise06LearnTest {
         int[] none = {0, -1, 5, 8, 9, 257, Integer.MAX_VALUE, Integer.MIN_VALUE};
         for (int key : none) {
             CHECK.due("learn(" + key + ", 1, 2)", x.learn(key, 1, 2), -1);
-            CHECK.due("learn(3, " + key + ", 2)", x.learn(3, key, 2), 0);
-            CHECK.due("learn(3, 1, " + key + ")", x.learn(3, 1, key), 0);
+            CHECK.due("learn(3, " + key + ", 2)", x.learn(3, key, 2), -1);
+            CHECK.due("learn(3, 1, " + key + ")", x.learn(3, 1, key), -1);
         }
+        CHECK.due("refusals taught nothing", x.field(3, 0, 0, 1), 0);
+        CHECK.due("refusals took nothing", x.learn(3, 1, 2), 1);
+    }
+
+    private static void unknownComesFirst() {
+        DoorKeys x = new DoorKeys(0);
+        CHECK.due("no keys yet", x.learn(1, 1, 1), -1);
+        x.key(0, 0);
+        CHECK.due("LEARNED already, both unknown", x.learn(1, 0, 0), -1);
+        CHECK.due("LEARNED already, a unknown", x.learn(1, 2, 1), -1);
+        CHECK.due("LEARNED already, b unknown", x.learn(1, 1, 2), -1);
+        CHECK.due("LEARNED already, all known", x.learn(1, 1, 1), 0);
+        x.key(1, 0);
+        x.key(2, 0);
+        CHECK.due("a away, b unknown", x.learn(3, 1, 4), -1);
+        CHECK.due("a unknown, b away", x.learn(3, 4, 1), -1);
+        CHECK.due("a not LEARNED, b unknown", x.learn(3, 3, 9), -1);
+        CHECK.due("one unknown number twice", x.learn(3, 4, 4), -1);
+        CHECK.due("all unknown", x.learn(0, 0, 0), -1);
+        CHECK.due("all known, both away", x.learn(3, 1, 2), 0);
+        x.key(3, 0);
+        CHECK.due("the number is a key's by now", x.learn(3, 1, 4), 0);
+        x.erase(2);
+        CHECK.due("an erased key is still a key", x.learn(3, 1, 2), 0);
     }
 
     private static void afterLearning() {
