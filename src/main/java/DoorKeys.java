@@ -443,7 +443,7 @@ public final class DoorKeys {
 
         Doors() {
             this.states = new int[COUNT];
-            for (int i = 0; i < COUNT; i++) {
+            for (int i = 0; i < this.states.length; i++) {
                 this.states[i] = LOCKED;
             }
         }
@@ -470,14 +470,12 @@ public final class DoorKeys {
         }
 
         void openOne(int door) {
-            if (has(door)) {
-                states[door] = OPEN;
-            }
+            put(door, OPEN);
         }
 
         void openBootUnlessDead() {
-            if (states[BOOT] != DEAD) {
-                states[BOOT] = OPEN;
+            if (!is(BOOT, DEAD)) {
+                put(BOOT, OPEN);
             }
         }
 
@@ -488,10 +486,10 @@ public final class DoorKeys {
         }
 
         int shutBoot() {
-            if (states[BOOT] != OPEN) {
+            if (!is(BOOT, OPEN)) {
                 return 0;
             }
-            states[BOOT] = LOCKED;
+            put(BOOT, LOCKED);
             noteShut(1);
             return 1;
         }
@@ -503,7 +501,7 @@ public final class DoorKeys {
         int nearestTo(long x, long y) {
             int nearest = NONE;
             long least = FARTHEST_NEAR * FARTHEST_NEAR + 1;
-            for (int i = 0; i < COUNT; i++) {
+            for (int i = 0; i < PLACE_X.length && i < PLACE_Y.length; i++) {
                 long dx = x - PLACE_X[i];
                 long dy = y - PLACE_Y[i];
                 long square = dx * dx + dy * dy;
@@ -513,6 +511,16 @@ public final class DoorKeys {
                 }
             }
             return nearest;
+        }
+
+        private boolean is(int door, int state) {
+            return has(door) && states[door] == state;
+        }
+
+        private void put(int door, int state) {
+            if (has(door)) {
+                states[door] = state;
+            }
         }
 
         private int turn(int from, int to) {

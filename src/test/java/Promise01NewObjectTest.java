@@ -11,6 +11,8 @@ public final class Promise01NewObjectTest {
             spanIs(span, 16);
         }
         hasNothing();
+        lastSpansInsideAndFirstOutside();
+        firstKeyIsNumberOne();
         CHECK.end();
     }
 
@@ -39,5 +41,32 @@ public final class Promise01NewObjectTest {
         CHECK.noOctet(x, 0);
         CHECK.due("a frame without keys", Remotes.press(x, 1, SECRET, 0, 1), 0);
         CHECK.due("a frame of key 0", Remotes.press(x, 0, SECRET, 0, 1), 0);
+    }
+
+    /** "(1 .. 32767; 16 for any other number)": a code at 17 tells the two apart. */
+    private static void lastSpansInsideAndFirstOutside() {
+        int[] spans = {Integer.MIN_VALUE, -32768, -1, 0, 1, 16, 17, 32766, 32767, 32768, 65537, Integer.MAX_VALUE};
+        int[] at17 = {2, 2, 2, 2, 2, 2, 1, 1, 1, 2, 2, 2};
+        int[] at16 = {1, 1, 1, 1, 2, 1, 1, 1, 1, 1, 1, 1};
+        for (int i = 0; i < spans.length; i++) {
+            CHECK.due("span " + spans[i] + ", d = 17", answerAt(spans[i], 17), at17[i]);
+            CHECK.due("span " + spans[i] + ", d = 16", answerAt(spans[i], 16), at16[i]);
+            CHECK.due("span " + spans[i] + ", d = 1", answerAt(spans[i], 1), 1);
+            CHECK.due("span " + spans[i] + ", d = 0", answerAt(spans[i], 0), 0);
+        }
+    }
+
+    private static int answerAt(int span, int d) {
+        DoorKeys x = new DoorKeys(span);
+        x.key(SECRET, 65530);
+        return Remotes.press(x, 1, SECRET, 0, 65530 + d);
+    }
+
+    private static void firstKeyIsNumberOne() {
+        for (int span : new int[] {0, 1, 16, 32767, 32768}) {
+            DoorKeys x = new DoorKeys(span);
+            CHECK.due("a first key", x.key(0, 0), 1);
+            CHECK.due("in another object", new DoorKeys(span).counter(1), -1);
+        }
     }
 }

@@ -21,6 +21,19 @@ public final class Promise03RemoteTest {
         commands();
         commandsBehindACrash();
         batteryOnlyWhenTaken();
+        longFrames();
+        firstAndLastNumbersOfKeys();
+        lastCommandInsideAndFirstOutside();
+        signsAtTheEnds();
+        countersOutsideOfACode();
+        codesAtTheEnds();
+        edgesOfSpans();
+        secondsAtTheEdges();
+        nothingIsAwaitedBehindAFarSecond();
+        awaitedWithinTheSpan();
+        secondsDoTheirOwn();
+        oneOpenKeepsThreeFromDeadening();
+        oneEndsWhereItsLastOctetIs();
         CHECK.end();
     }
 
@@ -305,5 +318,203 @@ public final class Promise03RemoteTest {
         Remotes.press(x, 1, S1, 0, 101, 0xFF);
         CHECK.due("taken", x.battery(1), 1);
         CHECK.due("the other key", x.battery(2), 0);
+    }
+
+    /** "it has not 8 octets", counted beyond the 16 that are kept and beyond what an octet counts. */
+    private static void longFrames() {
+        byte[] frame = Remotes.frame(1, 0, Remotes.code(S1, 1), 0);
+        for (int length : new int[] {7, 8, 9, 15, 16, 17, 23, 24, 25, 255, 256, 263, 264, 265, 500}) {
+            DoorKeys x = two(16, 0);
+            byte[] again = new byte[length];
+            for (int i = 0; i < length; i++) {
+                again[i] = frame[i % 8];
+            }
+            CHECK.due("octets " + length, Remotes.send(x, again), length == 8 ? 1 : 0);
+            CHECK.doors("octets " + length, x, length == 8 ? "00000" : "11111");
+        }
+    }
+
+    /** "there is no such key": numbers 1 and 8 are keys, 0 and 9 none. */
+    private static void firstAndLastNumbersOfKeys() {
+        DoorKeys x = two(16, 0);
+        for (int key = 3; key <= 8; key++) {
+            CHECK.due("before there is key " + key, Remotes.press(x, key, 100 + key, 0, 1), 0);
+            x.key(100 + key, 0);
+            CHECK.due("not LEARNED, key " + key, Remotes.press(x, key, 100 + key, 0, 1), 0);
+            x.field(1, 0, 0, 1);
+            x.field(2, 0, 0, 1);
+            x.learn(key, 1, 2);
+            CHECK.due("key " + key, Remotes.press(x, key, 100 + key, 1, 1), 1);
+        }
+        CHECK.due("key 1", press(x, 1), 1);
+        for (int none : new int[] {0, 9, 16, 128, 129, 136, 248, 255}) {
+            CHECK.due("key " + none, Remotes.press(x, none, 108, 0, 2), 0);
+            CHECK.due("key " + none + ", secret 0", Remotes.press(x, none, 0, 0, 1), 0);
+        }
+        CHECK.doors("none of no key did a thing", x, "11111");
+    }
+
+    /** "the command is above 3". */
+    private static void lastCommandInsideAndFirstOutside() {
+        for (int command : new int[] {0, 1, 2, 3, 4, 5, 127, 128, 131, 252, 255}) {
+            DoorKeys x = two(16, 0);
+            int want = command <= 3 ? 1 : 0;
+            CHECK.due("command " + command, Remotes.press(x, 1, S1, command, 5, 1), want);
+            CHECK.due("its counter", x.counter(1), 5 * want);
+            CHECK.due("its battery", x.battery(1), want);
+            CHECK.doors("command " + command, x,
+                    new String[] {"00000", "11111", "11110", "22222", "11111"}[Math.min(command, 4)]);
+        }
+    }
+
+    private static void signsAtTheEnds() {
+        long[] secrets = {0, 0xFFFFL, 0xFFFF0000L, 0xFFFF00000000L, 0xFFFF000000000000L, 1, 0x8000L, 0x00FF0000FF000000L};
+        long[] signs = {0, 0xFFFF, 0xFFFF, 0xFFFF, 0xFFFF, 1, 0x8000, 0xFFFF};
+        for (int i = 0; i < secrets.length; i++) {
+            CHECK.due("sign", Remotes.sign(secrets[i]), signs[i]);
+            DoorKeys x = new DoorKeys(16);
+            x.key(secrets[i], 65535);
+            long code = Remotes.e(secrets[i], 65536 * signs[i]);
+            CHECK.due("sign " + signs[i], Remotes.send(x, Remotes.frame(1, 0, code, 0)), 1);
+            CHECK.due("counter", x.counter(1), 0);
+        }
+    }
+
+    /** "for any c of 0 .. 65535": c = -1 and c = 65536 would be another SIGN's. */
+    private static void countersOutsideOfACode() {
+        long sign = 65536 * Remotes.sign(S2);
+        long[] texts = {sign - 1, sign, sign + 65535, sign + 65536, sign + 65537};
+        int[] counters = {65534, 65535, 65534, 65535, 0};
+        int[] answers = {0, 1, 1, 0, 0};
+        for (int i = 0; i < texts.length; i++) {
+            DoorKeys x = two(16, counters[i]);
+            byte[] frame = Remotes.frame(2, 0, Remotes.e(S2, texts[i]), 0);
+            CHECK.due("text " + (texts[i] - sign), Remotes.send(x, frame), answers[i]);
+        }
+    }
+
+    /** "four octets, the highest first", where all bits or the highest one alone are set or not. */
+    private static void codesAtTheEnds() {
+        long[] secrets = {0xAE35C7F9EA9992AAL, 0xC4FBC3234DDD2ADBL, 0x2511561C4F6322ECL, 0xD408CF8B0AD60479L};
+        int[] counters = {45727, 7213, 44488, 2614};
+        long[] codes = {0, 0xFFFFFFFFL, 0x7FFFFFFFL, 0x80000000L};
+        for (int i = 0; i < codes.length; i++) {
+            CHECK.due("code", Remotes.code(secrets[i], counters[i]), codes[i]);
+            DoorKeys x = new DoorKeys(16);
+            x.key(secrets[i], counters[i] - 1);
+            CHECK.due("code " + codes[i], Remotes.send(x, Remotes.frame(1, 0, codes[i], 0)), 1);
+            CHECK.due("counter", x.counter(1), counters[i]);
+        }
+    }
+
+    /** "d from 1 to the SPAN", "d = 0, or above 32768", "others". */
+    private static void edgesOfSpans() {
+        for (int span : new int[] {1, 2, 16, 32766, 32767}) {
+            for (int from : new int[] {0, 1, 32767, 32768, 65535}) {
+                int[] d = {0, 1, span, span + 1, 32767, 32768, 32769, 65535};
+                for (int step : d) {
+                    DoorKeys x = two(span, from);
+                    int want = step == 0 || step > 32768 ? 0 : step <= span ? 1 : 2;
+                    CHECK.due("span " + span + " from " + from + ", d = " + step, press(x, from + step), want);
+                    CHECK.due("counter", x.counter(1), want == 1 ? (from + step) % 65536 : from);
+                }
+            }
+        }
+    }
+
+    /** A second that is awaited, at each edge that a first one can stand at. */
+    private static void secondsAtTheEdges() {
+        for (int span : new int[] {1, 16, 32765, 32766}) {
+            for (int from : new int[] {0, 32768, 65535}) {
+                for (int step : new int[] {span + 1, 32767}) {
+                    DoorKeys x = two(span, from);
+                    CHECK.due("first, d = " + step, press(x, from + step), 2);
+                    CHECK.due("counter stays", x.counter(1), from);
+                    CHECK.due("second", press(x, from + step + 1), 1);
+                    CHECK.due("counter", x.counter(1), (from + step + 1) % 65536);
+                }
+            }
+        }
+        DoorKeys y = two(16, 65000);
+        CHECK.due("65534", press(y, 65534), 2);
+        CHECK.due("65535", press(y, 65535), 1);
+        DoorKeys z = two(16, 65000);
+        CHECK.due("0", press(z, 0), 2);
+        CHECK.due("65535 is not the one behind 0", press(z, 65535), 2);
+        CHECK.due("0 is", press(z, 0), 1);
+    }
+
+    /** "above 32768: 0", though it was awaited; and "nothing is awaited any more" then. */
+    private static void nothingIsAwaitedBehindAFarSecond() {
+        for (int from : new int[] {0, 40000, 65535}) {
+            DoorKeys x = two(32767, from);
+            CHECK.due("d = 32768", press(x, from + 32768), 2);
+            CHECK.due("d = 32769, awaited", press(x, from + 32769), 0);
+            CHECK.due("counter stays", x.counter(1), from);
+            CHECK.due("d = 32768 again", press(x, from + 32768), 2);
+            DoorKeys y = two(16, from);
+            CHECK.due("d = 32767", press(y, from + 32767), 2);
+            CHECK.due("d = 0", press(y, from), 0);
+            CHECK.due("d = 32768 is awaited no more", press(y, from + 32768), 2);
+        }
+    }
+
+    /** An awaited one that has come within the SPAN is taken for its d; a code within it ends the waiting. */
+    private static void awaitedWithinTheSpan() {
+        DoorKeys x = two(16, 100);
+        CHECK.due("d = 17", press(x, 117), 2);
+        CHECK.due("d = 16", press(x, 116), 1);
+        CHECK.due("d = 2, awaited no more", press(x, 118), 1);
+        CHECK.due("d = 17", press(x, 135), 2);
+        CHECK.due("d = 1", press(x, 119), 1);
+        CHECK.due("d = 17, awaited no more", press(x, 136), 2);
+        CHECK.due("its second", press(x, 137), 1);
+    }
+
+    /** "One that is taken does its command": the first of two does neither its own nor the second's. */
+    private static void secondsDoTheirOwn() {
+        DoorKeys x = two(16, 0);
+        CHECK.due("first", Remotes.press(x, 1, S1, 0, 1000, 1), 2);
+        CHECK.doors("first", x, "11111");
+        CHECK.due("no battery yet", x.battery(1), 0);
+        CHECK.due("second", Remotes.press(x, 1, S1, 2, 1001, 1), 1);
+        CHECK.doors("second", x, "11110");
+        CHECK.due("battery", x.battery(1), 1);
+    }
+
+    /** "all are DEAD, if all are LOCKED (or DEAD)"; "the boot is OPEN, if it is not DEAD". */
+    private static void oneOpenKeepsThreeFromDeadening() {
+        long[][] places = {{1000, 900}, {1000, -900}, {-500, 900}, {-500, -900}, {-2200, 0}};
+        for (int door = 0; door < 5; door++) {
+            DoorKeys x = two(16, 0);
+            x.field(1, places[door][0], places[door][1], 1);
+            String one = "11111".substring(0, door) + "0" + "11111".substring(door + 1);
+            CHECK.doors("one OPEN", x, one);
+            CHECK.due("3 is taken", Remotes.press(x, 1, S1, 3, 1), 1);
+            CHECK.doors("3 does nothing", x, one);
+            Remotes.press(x, 1, S1, 1, 2);
+            Remotes.press(x, 1, S1, 3, 3);
+            CHECK.doors("3, none OPEN", x, "22222");
+            x.field(1, places[door][0], places[door][1], 1);
+            Remotes.press(x, 1, S1, 2, 4);
+            CHECK.doors("2, one OPEN", x, one.replace('1', '2'));
+            Remotes.press(x, 1, S1, 1, 5);
+            Remotes.press(x, 1, S1, 2, 6);
+            CHECK.doors("2, one LOCKED", x, door == 4 ? "22220" : one.replace('1', '2').replace('0', '1'));
+        }
+    }
+
+    /** "the next octet begins another frame then": behind frames too short, too long, refused, taken. */
+    private static void oneEndsWhereItsLastOctetIs() {
+        DoorKeys x = two(16, 0);
+        int counter = 0;
+        for (int length : new int[] {1, 7, 9, 15, 16, 17, 30}) {
+            Remotes.send(x, new byte[length]);
+            counter++;
+            CHECK.due("behind " + length, press(x, counter), 1);
+            CHECK.due("refused", press(x, counter), 0);
+            counter++;
+            CHECK.due("behind one refused", press(x, counter), 1);
+        }
     }
 }

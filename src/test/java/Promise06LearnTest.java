@@ -8,6 +8,10 @@ public final class Promise06LearnTest {
         unknown();
         unknownComesFirst();
         afterLearning();
+        firstAndLastNumbers();
+        teachersAtTheEdges();
+        refusalsAndNoughtsTeachNothing();
+        wrongAnswersLeaveTheTeachers();
         CHECK.end();
     }
 
@@ -108,5 +112,70 @@ public final class Promise06LearnTest {
         CHECK.due("an erased key is LEARNED again", x.learn(1, 2, 4), 0);
         CHECK.due("an erased key is LEARNED again", x.learn(1, 2, 3), 1);
         CHECK.due("and is not INSIDE", x.start(1, Remotes.e(1, Remotes.question(1))), 0);
+    }
+
+    /** "-1 there is no such key", of all three numbers, with room for keys and without. */
+    private static void firstAndLastNumbers() {
+        DoorKeys x = four();
+        for (int keys = 4; keys <= 8; keys++) {
+            nearAndInside(x);
+            int next = keys + 1;
+            CHECK.due("key 0 of " + keys, x.learn(0, 1, 2), -1);
+            CHECK.due("a 0 of " + keys, x.learn(4, 0, 2), -1);
+            CHECK.due("b 0 of " + keys, x.learn(4, 1, 0), -1);
+            CHECK.due("key " + next + " of " + keys, x.learn(next, 1, 2), -1);
+            CHECK.due("a " + next + " of " + keys, x.learn(4, next, 2), -1);
+            CHECK.due("b " + next + " of " + keys, x.learn(4, 1, next), -1);
+            CHECK.due("the last as a", x.learn(4, keys, 1), 0);
+            CHECK.due("the last as b", x.learn(4, 1, keys), 0);
+            x.key(next, 0);
+        }
+        CHECK.due("the last of 8", x.learn(8, 1, 2), 1);
+        x.field(8, 0, 0, 1);
+        CHECK.due("the last of 8 as a", x.learn(7, 8, 2), 1);
+        CHECK.due("the last of 8 as b", x.learn(6, 1, 8), 1);
+        CHECK.due("there is no ninth", x.learn(9, 1, 2), -1);
+    }
+
+    /** "NEAR or INSIDE", at the last place and time of each and the first beyond. */
+    private static void teachersAtTheEdges() {
+        long[][] fields = {{1000, 2400, 1, 1}, {1000, 2401, 1, 0}, {-3700, 0, 2000, 1}, {-3701, 0, 2000, 0},
+            {2000, 800, 2000, 1}, {2000, 800, 2001, 0}, {1000, 900, 2001, 0}, {1000000, 1000000, 1, 0}};
+        for (long[] f : fields) {
+            DoorKeys x = four();
+            nearAndInside(x);
+            CHECK.due("field", x.field(1, f[0], f[1], f[2]), f[3]);
+            CHECK.due("its field told " + f[3], x.learn(3, 1, 2), f[3]);
+            DoorKeys y = four();
+            nearAndInside(y);
+            y.field(2, f[0], f[1], f[2]);
+            CHECK.due("the other's field told " + f[3], y.learn(3, 1, 2), f[3]);
+        }
+    }
+
+    private static void refusalsAndNoughtsTeachNothing() {
+        int[][] calls = {{3, 1, 1}, {3, 3, 1}, {3, 1, 3}, {3, 3, 3}, {3, 4, 4}, {3, 1, 4}, {3, 0, 2}, {3, 1, 5}, {5, 1, 2}};
+        for (int[] call : calls) {
+            DoorKeys x = four();
+            nearAndInside(x);
+            int want = call[0] == 5 || call[1] == 0 || call[2] == 5 ? -1 : 0;
+            CHECK.due("learn(" + call[0] + ", " + call[1] + ", " + call[2] + ")", x.learn(call[0], call[1], call[2]), want);
+            for (int key = 3; key <= 4; key++) {
+                CHECK.due("no field", x.field(key, 0, 0, 1), 0);
+                CHECK.due("no frame", Remotes.press(x, key, key, 0, 1), 0);
+                CHECK.due("nothing to erase", x.erase(key), 0);
+            }
+        }
+    }
+
+    private static void wrongAnswersLeaveTheTeachers() {
+        DoorKeys x = four();
+        nearAndInside(x);
+        x.learn(1, 1, 2);
+        x.learn(3, 1, 1);
+        x.learn(9, 1, 2);
+        CHECK.due("they may teach", x.learn(3, 1, 2), 1);
+        CHECK.due("teaching ends nothing", x.learn(4, 1, 2), 1);
+        CHECK.due("nor INSIDE", x.start(2, Remotes.e(2, Remotes.question(1))), 1);
     }
 }

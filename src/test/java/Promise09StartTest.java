@@ -8,6 +8,10 @@ public final class Promise09StartTest {
         wrongAnswers();
         wrongKeys();
         endsACrash();
+        answersAtTheEnds();
+        firstAndLastNumbers();
+        questionsWithoutAnEnd();
+        aStartWithoutACrash();
         CHECK.end();
     }
 
@@ -89,5 +93,62 @@ public final class Promise09StartTest {
         CHECK.due("no more", x.lock(0), 5);
         x.crash();
         CHECK.due("another CRASH", x.lock(0), -3);
+    }
+
+    /** "from 0 to 2^32 - 1": keys whose right answer to the first question stands at an end. */
+    private static void answersAtTheEnds() {
+        long[] secrets = {0x2D7BE442F1114E59L, 0x9E05423279B8977BL, 0x8A27992704B7B482L, 0x51A1E7A902AA4035L};
+        long[] answers = {0, 0xFFFFFFFFL, 0x7FFFFFFFL, 0x80000000L};
+        for (int i = 0; i < secrets.length; i++) {
+            CHECK.due("the right answer", answer(secrets[i], 1), answers[i]);
+            long right = answers[i];
+            long[] tries = {right, right - 1, right + 1, right + (1L << 32), right - (1L << 32), right | 1L << 63};
+            for (int j = 0; j < tries.length; j++) {
+                DoorKeys x = new DoorKeys(16);
+                x.key(secrets[i], 0);
+                x.field(1, 0, 0, 1);
+                CHECK.due("start(1, " + tries[j] + ")", x.start(1, tries[j]), j == 0 ? 1 : 0);
+                CHECK.due("asked", x.state(6), 1);
+            }
+        }
+    }
+
+    /** "-1 there is no key (nothing is asked)", with room for keys and without. */
+    private static void firstAndLastNumbers() {
+        DoorKeys x = new DoorKeys(16);
+        for (int keys = 0; keys <= 8; keys++) {
+            CHECK.due("start(0) of " + keys, x.start(0, 0), -1);
+            CHECK.due("one more than " + keys, x.start(keys + 1, 0), -1);
+            CHECK.due("nothing was asked", x.state(6), 0);
+            x.key(100 + keys, 0);
+        }
+        x.field(1, 0, 0, 1);
+        x.field(2, 0, 0, 1);
+        x.learn(8, 1, 2);
+        x.field(8, 0, 0, 1);
+        CHECK.due("the first question is the last key's", x.start(8, answer(107, 1)), 1);
+        CHECK.due("no ninth", x.start(9, answer(108, 2)), -1);
+        CHECK.due("the second question is still to come", x.start(1, answer(100, 2)), 1);
+    }
+
+    /** "2654435761 n modulo 2^32": as far as the calls of one object reach. */
+    private static void questionsWithoutAnEnd() {
+        DoorKeys x = inside();
+        for (int n = 1; n <= 507; n++) {
+            CHECK.due("question " + n, x.start(1, n % 3 == 0 ? answer(SECRET, n) : answer(SECRET, n - 1)), n % 3 == 0 ? 1 : 0);
+        }
+        CHECK.due("questions", x.state(6), 507);
+    }
+
+    private static void aStartWithoutACrash() {
+        DoorKeys x = inside();
+        CHECK.due("start", x.start(1, answer(SECRET, 1)), 1);
+        CHECK.due("and again", x.start(1, answer(SECRET, 2)), 1);
+        CHECK.doors("it leaves the doors", x, "11111");
+        x.lock(1);
+        CHECK.due("DEAD", x.start(1, answer(SECRET, 3)), 1);
+        CHECK.doors("it leaves the DEAD", x, "22222");
+        x.crash();
+        CHECK.due("a CRASH behind a start", x.lock(0), -3);
     }
 }

@@ -7,6 +7,10 @@ public final class Promise13OctetTest {
         lengths();
         anotherFrame();
         framesOfAllKinds();
+        keepsTheFirstSixteen();
+        everyOctet();
+        longThenShort();
+        throwingChangesNothing();
         CHECK.end();
     }
 
@@ -72,5 +76,62 @@ public final class Promise13OctetTest {
             }
             nothingOutside(x, 8);
         }
+    }
+
+    /** "(it keeps the first 16)": 15, 16 and 17, and far more. */
+    private static void keepsTheFirstSixteen() {
+        for (int length : new int[] {1, 2, 8, 15, 16, 17, 31, 32, 33, 255, 256, 257, 272, 480}) {
+            DoorKeys x = new DoorKeys(16);
+            byte[] octets = new byte[length];
+            for (int i = 0; i < length; i++) {
+                octets[i] = (byte) (i * 7 + 1);
+            }
+            CHECK.due("octets " + length, Remotes.send(x, octets), 0);
+            int kept = Math.min(length, 16);
+            CHECK.octet(x, 0, 1);
+            CHECK.octet(x, kept - 1, octets[kept - 1]);
+            nothingOutside(x, kept);
+        }
+    }
+
+    private static void everyOctet() {
+        for (int value = -128; value <= 127; value++) {
+            DoorKeys x = new DoorKeys(16);
+            x.remote((byte) value, true);
+            CHECK.octet(x, 0, value);
+            CHECK.noOctet(x, 1);
+        }
+    }
+
+    /** Nothing of a longer frame shows behind a shorter one, nor of one that has not come to its end. */
+    private static void longThenShort() {
+        DoorKeys x = new DoorKeys(16);
+        Remotes.send(x, new byte[20]);
+        Remotes.send(x, new byte[16]);
+        Remotes.send(x, new byte[] {9});
+        CHECK.octet(x, 0, 9);
+        nothingOutside(x, 1);
+        for (int i = 0; i < 20; i++) {
+            x.remote((byte) (50 + i), false);
+            CHECK.octet(x, 0, 9);
+            CHECK.noOctet(x, 1);
+        }
+        x.remote((byte) 99, true);
+        for (int i = 0; i < 16; i++) {
+            CHECK.octet(x, i, 50 + i);
+        }
+        nothingOutside(x, 16);
+    }
+
+    private static void throwingChangesNothing() {
+        DoorKeys x = new DoorKeys(16);
+        x.key(1, 0);
+        byte[] frame = Remotes.frame(1, 0, Remotes.code(1, 1), 0);
+        for (int i = 0; i < 8; i++) {
+            nothingOutside(x, 0);
+            CHECK.due("octet " + i, x.remote(frame[i], i == 7), i == 7 ? 1 : 0);
+        }
+        nothingOutside(x, 8);
+        CHECK.octet(x, 7, frame[7]);
     }
 }
