@@ -15,7 +15,7 @@ public final class FaceTest {
                 "int key(long, long)", "int remote(byte, boolean)", "long counter(int)", "int lock(int)",
                 "int learn(int, int, int)", "int erase(int)", "int field(int, long, long, long)",
                 "int start(int, long)", "int crash()", "int alarm(int, long)", "int battery(int)",
-                "byte octet(int)", "int state(int)"));
+                "byte octet(int) throws ArrayIndexOutOfBoundsException", "int state(int)"));
         Set<String> got = new TreeSet<>();
         Set<String> names = new TreeSet<>();
         for (Method m : DoorKeys.class.getDeclaredMethods()) {
@@ -47,7 +47,11 @@ public final class FaceTest {
         for (int i = 0; i < m.getParameterCount(); i++) {
             text.append(i == 0 ? "" : ", ").append(m.getParameterTypes()[i]);
         }
-        return text.append(")").toString();
+        text.append(")");
+        for (Class<?> thrown : m.getExceptionTypes()) {
+            text.append(" throws ").append(thrown.getSimpleName());
+        }
+        return text.toString();
     }
 
     private static void constructors() {
@@ -55,6 +59,7 @@ public final class FaceTest {
         CHECK.due("constructors", all.length, 1);
         CHECK.due("it is public", Modifier.isPublic(all[0].getModifiers()) ? 1 : 0, 1);
         CHECK.due("it takes an int", Arrays.equals(all[0].getParameterTypes(), new Class<?>[] {int.class}) ? 1 : 0, 1);
+        CHECK.due("it throws nothing", all[0].getExceptionTypes().length, 0);
     }
 
     private static void noPrivateNamesakes(Class<?> c, Set<String> names) {
